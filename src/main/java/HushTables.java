@@ -39,10 +39,10 @@ public final class HushTables {
     }
 
     public int works() {
-        int fault = tape.readInto(draft);
+        boolean right = tape.isReadInto(draft);
         tape.length = 0;
-        if (fault >= 0) {
-            return FAULT_BASE - fault;
+        if (!right) {
+            return FAULT_BASE - tape.start;
         }
         draft.z = now.z;
         now.become(draft);
@@ -641,7 +641,7 @@ public final class HushTables {
     /** PEOPLE, TIES, CUTS, what is SEEN, and z: all that keep() keeps. */
     private static final class Works {
         static final int CUT = 0, TIE = 1, TABLE = 2, SHIFT = 3, LATE = 4, SEAT = 5, TOLD = 6;
-        private static final int[] KIND_ABOVE = {-1, CUT, CUT, TABLE, TIE, SHIFT, CUT};
+        private static final int[] KIND_ABOVE = {-1, 0, 0, 2, 1, 3, 0};
 
         int crowd = 1;
         final int[] weight = new int[MOST_PEOPLE];
@@ -845,8 +845,8 @@ public final class HushTables {
 
         final byte[] bytes = new byte[MOST_BYTES];
         int length = 0;
+        int start = 0;
         private int at = 0;
-        private int start = 0;
         private int sort = END;
         private int value = -1;
 
@@ -861,13 +861,9 @@ public final class HushTables {
             return true;
         }
 
-        /** The FAULT, or -1 if there is none. */
-        int readInto(Works draft) {
+        /** Whether THE TAPE is a TEXT, which the draft then holds; if not, start is its FAULT. */
+        boolean isReadInto(Works draft) {
             at = 0;
-            return isText(draft) ? -1 : start;
-        }
-
-        private boolean isText(Works draft) {
             step();
             if (!isWord("people") || !stepNumber(1, MOST_PEOPLE)) {
                 return false;
@@ -878,25 +874,16 @@ public final class HushTables {
             }
             step();
             for (int i = 0; i < MOST_BYTES && sort != END; i++) {
-                if (!isPiece(draft)) {
+                boolean right = isWord("tie") ? isTiePiece(draft)
+                        : isWord("first") ? isFirstPiece(draft)
+                        : isWord("seat") ? isSeatPiece(draft)
+                        : isWord("late") && isLatePiece(draft);
+                if (!right) {
                     return false;
                 }
                 step();
             }
             return sort == END;
-        }
-
-        private boolean isPiece(Works draft) {
-            if (isWord("tie")) {
-                return isTiePiece(draft);
-            }
-            if (isWord("first")) {
-                return isFirstPiece(draft);
-            }
-            if (isWord("seat")) {
-                return isSeatPiece(draft);
-            }
-            return isWord("late") && isLatePiece(draft);
         }
 
         private boolean isTiePiece(Works draft) {
@@ -921,21 +908,42 @@ public final class HushTables {
             return sort == STOP;
         }
 
-        /** Which of worth, odds, must is told, or 0 if it can't be. */
-        private int readExtra(Works draft, int tie, int told) {
-            if (isWord("worth") && (told & WORTH_TOLD) == 0 && stepNumber(0, 99)) {
-                draft.worth[tie] = value;
+        /** Which of worth, odds, must the NAME is, or 0 if it is none of them. */
+        private int extraNamed() {
+            if (isWord("worth")) {
                 return WORTH_TOLD;
             }
-            if (isWord("odds") && (told & ODDS_TOLD) == 0 && stepNumber(1, SURE_ODDS)) {
-                draft.odds[tie] = value;
+            if (isWord("odds")) {
                 return ODDS_TOLD;
             }
-            if (isWord("must") && (told & MUST_TOLD) == 0) {
-                draft.must[tie] = true;
-                return MUST_TOLD;
+            return isWord("must") ? MUST_TOLD : 0;
+        }
+
+        /** Which of worth, odds, must is told, or 0 if it can't be. */
+        private int readExtra(Works draft, int tie, int told) {
+            int extra = extraNamed();
+            if ((told & extra) != 0) {
+                return 0;
             }
-            return 0;
+            switch (extra) {
+                case WORTH_TOLD:
+                    if (!stepNumber(0, 99)) {
+                        return 0;
+                    }
+                    draft.worth[tie] = value;
+                    return extra;
+                case ODDS_TOLD:
+                    if (!stepNumber(1, SURE_ODDS)) {
+                        return 0;
+                    }
+                    draft.odds[tie] = value;
+                    return extra;
+                case MUST_TOLD:
+                    draft.must[tie] = true;
+                    return extra;
+                default:
+                    return 0;
+            }
         }
 
         private boolean isFirstPiece(Works draft) {
@@ -998,29 +1006,27 @@ public final class HushTables {
             value = -1;
             if (at >= length) {
                 sort = END;
-            } else if (isLetter(bytes[at])) {
-                sort = NAME;
-                while (at < length && isLetter(bytes[at])) {
-                    at++;
-                }
-            } else if (isDigit(bytes[at])) {
-                sort = NUMBER;
-                readNumber();
-            } else {
-                sort = bytes[at] == ';' ? STOP : OTHER;
+                return;
+            }
+            sort = sortOf(bytes[at]);
+            at++;
+            boolean goesOn = sort == NAME || sort == NUMBER;
+            while (goesOn && at < length && sortOf(bytes[at]) == sort) {
                 at++;
+            }
+            if (sort == NUMBER) {
+                readNumber();
             }
         }
 
         /** The value stays -1, which nobody takes, when there are more digits than two. */
         private void readNumber() {
-            int sum = 0;
-            while (at < length && isDigit(bytes[at])) {
-                sum = sum * 10 + (bytes[at] - '0');
-                at++;
+            if (at - start > 2) {
+                return;
             }
-            if (at - start <= 2) {
-                value = sum;
+            value = 0;
+            for (int i = start; i < at; i++) {
+                value = value * 10 + (bytes[i] - '0');
             }
         }
 
@@ -1036,12 +1042,14 @@ public final class HushTables {
             return true;
         }
 
-        private static boolean isLetter(byte b) {
-            return b >= 'a' && b <= 'z';
-        }
-
-        private static boolean isDigit(byte b) {
-            return b >= '0' && b <= '9';
+        private static int sortOf(byte b) {
+            if (b >= 'a' && b <= 'z') {
+                return NAME;
+            }
+            if (b >= '0' && b <= '9') {
+                return NUMBER;
+            }
+            return b == ';' ? STOP : OTHER;
         }
     }
 
@@ -1499,17 +1507,11 @@ public final class HushTables {
             own = works.cutKind[cut];
             n = cut;
             a = works.cutA[cut];
-            int answer = answerOf(act, x);
+            int answer = act == 0 ? parts(own, x)
+                    : act == 1 ? costs(own, x)
+                    : act == 2 ? shares(own, x)
+                    : tells(own, x);
             return broken ? PARTED_BY_0 : answer;
-        }
-
-        private int answerOf(int act, int x) {
-            switch (act) {
-                case 0: return parts(own, x);
-                case 1: return costs(own, x);
-                case 2: return shares(own, x);
-                default: return tells(own, x);
-            }
         }
 
         /** Nothing begins any more behind a parting by 0. */
