@@ -48,6 +48,7 @@ public final class PromiseTest {
         trace();
         many();
         keepAndBack();
+        atTheLimits();
         System.out.println("PromiseTest: " + asked + " calls, " + wrong + " wrong");
         if (wrong != 0) {
             System.exit(1);
@@ -179,6 +180,14 @@ public final class PromiseTest {
                 + "tie 0 9;tie 1 2;tie 1 3;tie 1 4;tie 1 5;tie 1 6;late 13 5;"), 14);
         due("3 eight cuts", read(x, "people 1;seat 0;seat 0;seat 0;seat 0;seat 0;seat 0;seat 0;seat 0;"), 0);
         due("3 eight cuts many", x.many(2), 8);
+        due("3 a full tape", read(x, "people 5;" + " ".repeat(191)), 0);
+        due("3 a full tape, a number at its end", read(x, "people 5;" + " ".repeat(189) + "44"), -298);
+        due("3 a full tape, more must come", read(x, "people 5;" + " ".repeat(188) + "tie"), -300);
+        // what a tape held ahead of this one does not count
+        due("3 a long number", read(x, "people 33;"), -107);
+        due("3 a short one in its place", read(x, "people 3"), -108);
+        due("3 blanks", read(x, "people      "), -112);
+        due("3 fewer blanks", read(x, "people "), -107);
     }
 
     private static void faults() {
@@ -188,6 +197,7 @@ public final class PromiseTest {
         fault("people ", 7);
         fault("peopl 3;", 0);
         fault("peoples 3;", 0);
+        fault("peoplez 3;", 0);
         fault(" People 3;", 1);
         fault("3 people;", 0);
         fault("people;", 6);
@@ -881,6 +891,7 @@ public final class PromiseTest {
         due("32 one", x.meet(8, 1), 8);
         due("32 all of them", x.meet(14, 1), 30);
         due("32 near", x.meet(24, 1), 24);
+        due("32 it takes everybody", of("people 3;tie 0 2;tie 2 1;").meet(3, 1), 7);
         due("32 they can't", x.meet(33, 0), -3);
         due("32 they can't, these", x.meet(33, 1), -3);
         due("32 alone", x.meet(32, 0), 1);
@@ -924,6 +935,9 @@ public final class PromiseTest {
         x.put(0, 3, 4 | 1);
         due("34 place", x.best(0, 0), 2);
         due("34 size", x.best(0, 1), 3);
+        x.sheet(1, 2, 1);
+        due("34 one number", x.best(1, 0), 0);
+        due("34 one number, size", x.best(1, 1), 6);
         x.put(0, 1, -1);
         due("34 all ties", x.best(0, 0), 1);
         due("34 all ties, size", x.best(0, 1), 1);
@@ -1093,6 +1107,10 @@ public final class PromiseTest {
         acted(x, 2, 8, 3, 40, 12);
         acted(x, 3, 5, ((34 ^ 6) + 1) * 2, 61, 31, 13, 60, 11, 41, 30, 10, 40, 12, 40, 12);
         x.uncut();
+        // seat, n 1, a 2: shares(2) = (2 + 2) / 1 ^ 1
+        x.cut(5, 2, 0);
+        acted(x, 1, 5, 34 + 5, 60, 11, 41, 30, 10, 40, 12);
+        x.uncut();
         // told, n 1, a 6: parts(x) = x + 1 ^ 6, shares(x) = x / 5 + parts(6)
         x.cut(6, 6, 0);
         acted(x, 0, 5, 0, 70, 10);
@@ -1226,5 +1244,62 @@ public final class PromiseTest {
         x.prove(0, 0);
         HushTables y = new HushTables();
         due("44 another object has nothing", y.back(), -3);
+    }
+
+    // ---------------------------------------------------------------- as much as a works can have
+
+    private static void atTheLimits() {
+        // a ring of ten with four ties across, and eight cuts that cut nothing on day 0
+        HushTables x = new HushTables();
+        x.people(10);
+        for (int p = 0; p < 10; p++) {
+            x.tie(p, (p + 1) % 10, 99, p < 9 ? 2 : 4, false);
+        }
+        for (int p = 0; p < 4; p++) {
+            x.tie(p, p + 5, 99, 4, false);
+        }
+        for (int i = 0; i < 8; i++) {
+            x.cut(4, 13, 99 - i);
+        }
+        due("12 all", x.joined(0), 1023);
+        due("13 all", x.sets(1), 10);
+        due("14 all sure ties tell", x.chance(9, 1) > 0 ? 1 : 0, 1);
+        for (int p = 0; p < 10; p++) {
+            x.first(p, 9);
+        }
+        due("15 it is at most everybody", x.reach(0) <= 10 * x.reach(1) ? 1 : 0, 1);
+        due("17 nothing is seen", x.who(9, 1), 10);
+        due("18 ties", x.fewest(4, 9, 0), 2);
+        due("18 worth", x.fewest(4, 9, 1), 198);
+        due("19 the two beside 4", x.between(4, 9, 1), 1 << 3 | 1 << 5);
+        due("22 across", x.early(4, 9), 3);
+        due("23 all", x.could(4, 100), 1023);
+        due("27 rows", x.prove(4, 9), 3);
+        due("28 the least teller", x.row(2, 1), 0);
+        due("30 right", x.judge(4, 9), 0);
+        due("31 nobody parts them", x.chair(1), 9);
+        due("32 all", x.meet(1023, 0), 10);
+        due("33 one", x.tell(100, 1), 1);
+        due("42 unsure", x.many(7), 9);
+        due("43 keep", x.keep(), 1);
+        due("44 back", x.back(), 14);
+        due("44 cuts", x.many(2), 8);
+        due("25 sure ties tell on the first day", x.run(0, 1) & (1 | 1 << 5 | 1 << 9), 1 | 1 << 5 | 1 << 9);
+        // all eight in a ring: one is sent away on each side in turn
+        HushTables y = new HushTables();
+        y.people(8);
+        for (int p = 0; p < 8; p++) {
+            y.tie(p, (p + 1) % 8, 1, 4, false);
+        }
+        due("26 ring", y.guards(0, 0), 2);
+        due("26 ring, whom", y.guards(0, 1), 1);
+        y.people(7);
+        for (int p = 0; p < 7; p++) {
+            y.tie(p, (p + 1) % 7, 99, 4, false);
+            y.tie(p, (p + 2) % 7, 99, 4, false);
+        }
+        due("20 all apart", y.small(1, 1), 14 * 99);
+        due("20 all apart, ties", y.small(1, 0), 14);
+        due("21 all together", y.sit(7, 0), 14 * 99);
     }
 }
