@@ -38,7 +38,12 @@ final class Edge {
 
     // ---------------------------------------------------------------- the document
 
+    /** Without the document the tests run all the same, but their quotes can't be looked up. */
     static void openDocument() throws IOException {
+        if (!Files.isReadable(DOCUMENT)) {
+            System.out.println("EdgeTest: " + DOCUMENT + " is not there, so quotes are not looked up");
+            return;
+        }
         String text = Files.readString(DOCUMENT).replaceAll("\\s+", " ");
         Matcher heads = Pattern.compile("## Promise (\\d+): ").matcher(text);
         int begun = 0;
@@ -74,6 +79,9 @@ final class Edge {
     }
 
     private static void markQuoted(int promise, String words) {
+        if (SECTIONS.isEmpty()) {
+            return;
+        }
         String section = SECTIONS.getOrDefault(promise, "");
         int at = section.indexOf(words);
         if (at < 0) {
